@@ -514,7 +514,7 @@ public final class RuleMill {
     private static final class Row {
         final int most;
         int length = 0;
-        private final int[] fields;
+        final int[] fields;
 
         Row(int most) {
             this.most = Math.max(0, Math.min(most, MOST_ORDERS));
@@ -829,8 +829,9 @@ public final class RuleMill {
             for (int k = 0; k < words.length; k++) {
                 words[k] = bits >> k * width & all;
             }
-            for (int i = 0; i < orders.length; i++) {
-                obey(orders, i, all);
+            int behind = Math.min(orders.length, orders.most) * FIELDS;
+            for (int from = 0; from < behind; from += FIELDS) {
+                obey(orders.fields, from, all);
             }
             int told = 0;
             for (int k = 0; k < words.length; k++) {
@@ -839,10 +840,14 @@ public final class RuleMill {
             return told;
         }
 
-        private void obey(Row orders, int i, int all) {
-            int kind = orders.at(i, KIND);
-            int x = orders.at(i, 1) & 3;
-            int y = orders.at(i, 2) & 3;
+        /** The order whose fields begin there; read from the row itself, since all trials spend their time here. */
+        private void obey(int[] fields, int from, int all) {
+            if (from < 0 || from + FIELDS > fields.length) {
+                return;
+            }
+            int kind = fields[from + KIND];
+            int x = fields[from + 1] & 3;
+            int y = fields[from + 2] & 3;
             switch (kind) {
                 case NOP:
                     break;
@@ -853,7 +858,7 @@ public final class RuleMill {
                     words[x] = words[REGISTERS + y];
                     break;
                 case SEL:
-                    words[x] = words[x] != 0 ? words[y] : words[orders.at(i, 3) & 3];
+                    words[x] = words[words[x] != 0 ? y : fields[from + 3] & 3];
                     break;
                 case SWP:
                     int first = words[x];
@@ -861,7 +866,7 @@ public final class RuleMill {
                     words[y] = first;
                     break;
                 default:
-                    words[x] = worked(kind, words[x], words[y], orders.at(i, NUMBER)) & all;
+                    words[x] = worked(kind, words[x], words[y], fields[from + NUMBER]) & all;
             }
         }
 
