@@ -10,6 +10,8 @@ public final class ReadingTest {
         limits();
         assignments();
         full();
+        again();
+        behindTheEnd();
         BENCH.close();
     }
 
@@ -49,6 +51,9 @@ public final class ReadingTest {
     private static void programFaults() {
         program("mova b", 1, 0);
         program("mo", 1, 0);
+        program("movz a b", 1, 0);
+        program("movA a b", 1, 0);
+        program("mov aZ b", 1, 4);
         program("set1 2", 1, 3);
         program("mov ab c", 1, 4);
         program("mov a1 c", 1, 5);
@@ -165,6 +170,38 @@ public final class ReadingTest {
         mill = new RuleMill();
         BENCH.due("65536 assignments", Bench.rule(mill, "sel p q r;get s 0=>"), 0);
         BENCH.due("told(0, 2)", mill.told(0, 2), 65536);
+    }
+
+    /** What a text with a fault left behind is not part of the next one. */
+    private static void again() {
+        RuleMill mill = new RuleMill();
+        BENCH.due("a rule with a fault", Bench.rule(mill, "set p i;get q j;nop=>inc q;inc r"), -10 - 31);
+        BENCH.due("too many assignments", Bench.rule(mill, "sel p q r;get s i=>"), -10);
+        BENCH.due("fault()", mill.fault(), 5);
+        BENCH.due("a rule", Bench.rule(mill, "inc p;dec p=>"), 0);
+        int[] due = {1, 2, 4, 4, 2, 0, 1, 0, 0, 1};
+        for (int what = 0; what < due.length; what++) {
+            BENCH.due("told(0, " + what + ")", mill.told(0, what), due[what]);
+        }
+        BENCH.due("a program with a fault", Bench.program(mill, "nop;nop;x"), -10 - 8);
+        BENCH.due("a program", Bench.program(mill, "inc a"), 0);
+        BENCH.due("its text", Bench.text(mill, 0), "inc a");
+    }
+
+    /** Bytes that end() took away are not read. */
+    private static void behindTheEnd() {
+        String[] texts = {"set a 12", "set a 1", "inc ab", "inc a", "nopx", "nop"};
+        for (int k = 0; k < texts.length; k += 2) {
+            RuleMill mill = new RuleMill();
+            Bench.lay(mill, texts[k]);
+            mill.end(texts[k + 1].length());
+            BENCH.due("'" + texts[k] + "' cut", mill.program(), 0);
+            BENCH.due("text", Bench.text(mill, 0), texts[k + 1]);
+        }
+        RuleMill mill = new RuleMill();
+        Bench.lay(mill, "nop=>");
+        mill.end(4);
+        BENCH.due("'nop=>' cut", mill.rule(), -10 - 3);
     }
 
     private static void full() {

@@ -113,6 +113,8 @@ public final class RuleTest {
             assignments(w, "set p i;shl q i=>", word * word * Math.min(due[w - 1][1], due[w - 1][3]));
         }
         assignments(1, "get p i=>", 2 * 16 * 4);
+        assignments(2, "set p k;shl p i=>", 4 * 4 * 3);
+        assignments(2, "shl p k;set p i;shr p j=>", 4 * 3 * 4 * 3);
         assignments(1, "put p i;set p i=>", 2 * 16 * 2);
         assignments(2, "put p i;shl p i=>", 4 * 256 * 3);
         assignments(2, "set p i=>get p i", 4 * 256 * 4);
@@ -140,6 +142,9 @@ public final class RuleTest {
         wrongIs(2, "mov q p;nop=>mov p q", 0, 1, RuleMill.BAD);
         wrongIs(2, "shl p i;shl p j=>shl p i|j", 1, 1, 1, RuleMill.BAD);
         wrongIs(2, "put p i=>nop", 0, 0, 0, 0, 1, 3, RuleMill.BAD);
+        wrongIs(2, "get p 0=>set p 0", 0, 1, 0, 0, 0, RuleMill.BAD);
+        wrongIs(2, "get p 3=>set p 0", 0, 0, 0, 0, 1, RuleMill.BAD);
+        wrongIs(1, "sel p q r;mov q s=>sel p q r", 0, 0, 0, 1, RuleMill.BAD);
         wrongIs(1, "put p i;set p j=>put p i;set p i", 0, 0, 0, 0, 0, 0, 1, RuleMill.BAD);
         wrongIs(2, "nop=>", RuleMill.BAD);
         wrongIs(2, "inc p=>inc p", RuleMill.NONE, RuleMill.BAD);

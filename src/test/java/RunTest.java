@@ -84,6 +84,7 @@ public final class RunTest {
         compares(2, "inc a", "dec a", 0, 0);
         compares(2, "", "nop", 1, RuleMill.NONE);
         compares(2, "add a b", "xor a b", 0, bits(2, 1, 1));
+        compares(1, "and a b", "set a 0", 0, bits(1, 1, 1));
         compares(2, "mul d c", "and d c", 0, bits(2, 0, 0, 2, 1));
         compares(2, "", "put d 3", 0, bits(2, 0, 0, 0, 1));
         compares(2, "get a 3", "mov a d", 0, bits(2, 0, 0, 0, 1));

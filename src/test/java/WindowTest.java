@@ -40,6 +40,8 @@ public final class WindowTest {
         isWindow("set p i;shl p i=>", "set a 3;shl a 2", 0, 0);
         isWindow("set p i;set q j=>", "set a 1;set b 1", 0, 1);
         isWindow("set p i;set q i=>", "set a 1;set b 2", 0, 0);
+        isWindow("set p i;set q i=>", "set a 0;set b 2", 0, 0);
+        isWindow("nop;set p i=>", "nop", 0, 0);
         isWindow("set p 7=>", "set a 3", 0, 1);
         isWindow("set p 7=>", "set a 2", 0, 0);
         isWindow("shl p 9=>", "inc a;shl d 15", 1, 1);
@@ -218,6 +220,10 @@ public final class WindowTest {
         mill.on(1, true);
         mill.mill(1);
         BENCH.due("done(1), milled", mill.done(1), 1);
+        RuleMill first = new RuleMill();
+        Bench.rule(first, "nop=>");
+        Bench.program(first, "nop;inc a");
+        BENCH.due("not done at place 0, rule 0", first.done(0), 0);
         BENCH.due("done(3)", mill.done(3), RuleMill.BAD);
         BENCH.due("done(-1)", mill.done(-1), RuleMill.BAD);
     }
