@@ -239,11 +239,11 @@ public final class RuleMill {
     public int meant(int p, int i, int r, int sort, int k) {
         Row program = programAt(p);
         Rule rule = ruleAt(r);
-        if (program == null || !program.has(i) || rule == null || sort < 0 || sort > 1 || k < 0) {
+        if (program == null || !program.has(i) || rule == null || sort < 0 || sort > 1) {
             return BAD;
         }
         int there = sort == 0 ? rule.registers : rule.marks;
-        if (k >= there || !binding.finds(program, i, rule)) {
+        if (k < 0 || k >= there || !binding.finds(program, i, rule)) {
             return NONE;
         }
         return sort == 0 ? binding.register(k) : binding.number(k);

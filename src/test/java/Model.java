@@ -584,13 +584,13 @@ final class Model {
     }
 
     int meant(int p, int i, int r, int sort, int k) {
-        if (noPlace(p, i) || noRule(r) || sort < 0 || sort > 1 || k < 0) {
+        if (noPlace(p, i) || noRule(r) || sort < 0 || sort > 1) {
             return BAD;
         }
         Rule rule = rules.get(r);
         Window window = find(programs.get(p), i, rule);
         List<String> names = sort == 0 ? rule.registers : rule.marks;
-        if (window == null || k >= names.size()) {
+        if (window == null || k < 0 || k >= names.size()) {
             return NONE;
         }
         return sort == 0 ? window.registers().get(names.get(k)).charAt(0) - 'a' : window.marks().get(names.get(k));

@@ -230,7 +230,7 @@ public final class ModelTest {
         boolean right = true;
         for (int i = -1; i <= 24 && right; i++) {
             right = due("window(" + p + ", " + i + ", " + r + ")", mill.window(p, i, r), model.window(p, i, r));
-            for (int k = 0; k < 5 && right && mill.window(p, i, r) == 1; k++) {
+            for (int k = -1; k < 5 && right && mill.window(p, i, r) == 1; k++) {
                 right = due("meant(.., 0, " + k + ")", mill.meant(p, i, r, 0, k), model.meant(p, i, r, 0, k))
                     && due("meant(.., 1, " + k + ")", mill.meant(p, i, r, 1, k), model.meant(p, i, r, 1, k));
             }

@@ -101,7 +101,22 @@ public final class WindowTest {
         BENCH.due("no such rule", mill.meant(0, 0, 1, 0, 0), RuleMill.BAD);
         BENCH.due("no such sort", mill.meant(0, 1, 0, 2, 0), RuleMill.BAD);
         BENCH.due("no such sort", mill.meant(0, 1, 0, -1, 0), RuleMill.BAD);
-        BENCH.due("k -1", mill.meant(0, 1, 0, 0, -1), RuleMill.BAD);
+        meantNoneSuch(mill);
+    }
+
+    /** A k that names nothing of the rule is none such, below 0 as beyond; what is BAD stays so ahead of it. */
+    private static void meantNoneSuch(RuleMill mill) {
+        int[] nowhere = {-1, -2, 4, 5, Integer.MIN_VALUE, Integer.MAX_VALUE};
+        for (int k : nowhere) {
+            for (int sort = 0; sort <= 1; sort++) {
+                BENCH.due("k " + k + " in a window", mill.meant(0, 1, 0, sort, k), RuleMill.NONE);
+                BENCH.due("k " + k + " without one", mill.meant(0, 0, 0, sort, k), RuleMill.NONE);
+            }
+            BENCH.due("k " + k + ", no such place", mill.meant(0, 4, 0, 0, k), RuleMill.BAD);
+            BENCH.due("k " + k + ", no such program", mill.meant(1, 1, 0, 0, k), RuleMill.BAD);
+            BENCH.due("k " + k + ", no such rule", mill.meant(0, 1, 1, 0, k), RuleMill.BAD);
+            BENCH.due("k " + k + ", no such sort", mill.meant(0, 1, 0, 2, k), RuleMill.BAD);
+        }
     }
 
     private static void changes(int w, String rule, String program, int i, String due) {
