@@ -6,7 +6,7 @@ import java.util.Arrays;
 import java.util.Comparator;
 import java.util.Random;
 
-/** Any call with any arguments in any state ends without an exception, and 512 calls stay in their room. */
+/** Any call with any arguments in any state ends without an exception, and a run stays in its room. */
 public final class AnyCallTest {
     private static final Bench BENCH = new Bench("AnyCallTest");
     private static final int[] EDGES = {0, 1, 2, 3, 4, 23, 24, 25, -1, -2, 255, 65535, 65536, 1 << 24, Integer.MAX_VALUE, Integer.MIN_VALUE};
@@ -18,7 +18,7 @@ public final class AnyCallTest {
         methods = Arrays.stream(methods).filter(m -> Modifier.isPublic(m.getModifiers())).toArray(Method[]::new);
         Arrays.sort(methods, Comparator.comparing(Method::getName));
         int thrown = 0;
-        for (int seed = 0; seed < 400; seed++) {
+        for (int seed = 0; seed < 800; seed++) {
             thrown += callAll(methods, new Random(seed));
         }
         BENCH.due("calls that threw", thrown, 0);
@@ -29,7 +29,7 @@ public final class AnyCallTest {
     private static int callAll(Method[] methods, Random random) throws IllegalAccessException {
         RuleMill mill = new RuleMill();
         int thrown = 0;
-        for (int k = 0; k < 512; k++) {
+        for (int k = 0; k < 250; k++) {
             if (random.nextInt(5) == 0) {
                 mill.end(0);
                 Bench.lay(mill, TEXTS[random.nextInt(TEXTS.length)]);

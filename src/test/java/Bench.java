@@ -53,8 +53,10 @@ final class Bench {
 
     static String text(RuleMill mill, int p) {
         StringBuilder text = new StringBuilder();
-        for (int i = 0; i < 400 && mill.letter(p, i) > 0; i++) {
-            text.append((char) mill.letter(p, i));
+        int letter = mill.letter(p, 0);
+        for (int i = 1; i < 400 && letter > 0; i++) {
+            text.append((char) letter);
+            letter = mill.letter(p, i);
         }
         return text.toString();
     }
@@ -70,6 +72,27 @@ final class Bench {
     static RuleMill withWidth(int w) {
         RuleMill mill = new RuleMill();
         mill.width(w);
+        return mill;
+    }
+
+    /** Numbers outside 0 .. count - 1, the nearest and the farthest. */
+    static int[] outside(int count) {
+        return new int[] {-1, -2, count, count + 1, Integer.MIN_VALUE, Integer.MAX_VALUE, 1 << 16, -(1 << 16), count + (1 << 30)};
+    }
+
+    RuleMill withPrograms(String... texts) {
+        RuleMill mill = new RuleMill();
+        for (int k = 0; k < texts.length; k++) {
+            due("program '" + texts[k] + "'", program(mill, texts[k]), k);
+        }
+        return mill;
+    }
+
+    RuleMill withRules(int w, String... texts) {
+        RuleMill mill = withWidth(w);
+        for (int k = 0; k < texts.length; k++) {
+            due("rule '" + texts[k] + "'", rule(mill, texts[k]), k);
+        }
         return mill;
     }
 

@@ -14,13 +14,14 @@ public final class ModelTest {
     private final RuleMill mill = new RuleMill();
     private final Model model = new Model();
     private final StringBuilder way = new StringBuilder();
+    private int calls = 0;
 
     private ModelTest(long seed) {
         random = new Random(seed);
     }
 
     public static void main(String[] args) {
-        int runs = args.length > 0 ? Integer.parseInt(args[0]) : 150;
+        int runs = args.length > 0 ? Integer.parseInt(args[0]) : 600;
         for (int seed = 0; seed < runs; seed++) {
             new ModelTest(seed).runThrough(seed);
         }
@@ -29,15 +30,22 @@ public final class ModelTest {
 
     private void runThrough(int seed) {
         due("width", mill.width(1 + seed % 3), model.width(1 + seed % 3));
-        for (int k = 0; k < 150; k++) {
+        for (int k = 0; k < 512 && calls < 480; k++) {
             if (!makeCall()) {
                 System.out.println("seed " + seed + ":" + way);
                 return;
             }
         }
+        BENCH.due("no more calls than are promised: " + calls, calls <= 512 ? 1 : 0, 1);
+    }
+
+    /** What the document promises ends with the 512th call. */
+    private boolean mayGoOn() {
+        return calls < 500;
     }
 
     private boolean due(String call, int got, int want) {
+        calls++;
         way.append('\n').append(call).append(" -> ").append(got);
         BENCH.due(call, got, want);
         return got == want;
@@ -175,7 +183,7 @@ public final class ModelTest {
             case 8:
                 return due("size(" + p + ", " + what + ")", mill.size(p, what), model.size(p, what));
             case 9:
-                return textAll(p);
+                return textOf(p, n(2) == 0 ? 0 : near(8 * Math.max(0, model.size(p, 0))));
             case 10:
                 return due("joined(" + p + ", " + q + ")", mill.joined(p, q), model.joined(p, q));
             case 11:
@@ -218,9 +226,9 @@ public final class ModelTest {
         return right;
     }
 
-    private boolean textAll(int p) {
+    private boolean textOf(int p, int from) {
         boolean right = true;
-        for (int i = 0; i < 260 && right; i++) {
+        for (int i = from; i < from + 30 && right && mayGoOn(); i++) {
             right = due("letter(" + p + ", " + i + ")", mill.letter(p, i), model.letter(p, i));
         }
         return right;
@@ -228,9 +236,10 @@ public final class ModelTest {
 
     private boolean windowsAll(int p, int r) {
         boolean right = true;
-        for (int i = -1; i <= 24 && right; i++) {
+        int orders = model.size(p, 0);
+        for (int i = -1; i <= orders && right && mayGoOn(); i++) {
             right = due("window(" + p + ", " + i + ", " + r + ")", mill.window(p, i, r), model.window(p, i, r));
-            for (int k = -1; k < 5 && right && mill.window(p, i, r) == 1; k++) {
+            for (int k = -1; k < 5 && right && model.window(p, i, r) == 1 && mayGoOn(); k++) {
                 right = due("meant(.., 0, " + k + ")", mill.meant(p, i, r, 0, k), model.meant(p, i, r, 0, k))
                     && due("meant(.., 1, " + k + ")", mill.meant(p, i, r, 1, k), model.meant(p, i, r, 1, k));
             }
@@ -240,11 +249,11 @@ public final class ModelTest {
 
     private boolean millAll(int p) {
         boolean right = due("mill(" + p + ")", mill.mill(p), model.mill(p));
-        for (int k = -1; k <= model.count(5) && right; k++) {
-            for (int what = -1; what <= 3; what++) {
+        for (int k = -1; k <= model.count(5) && right && mayGoOn(); k++) {
+            for (int what = n(9) == 0 ? -1 : 0; what <= (n(9) == 0 ? 3 : 2); what++) {
                 right &= due("step(" + k + ", " + what + ")", mill.step(k, what), model.step(k, what));
             }
         }
-        return right && textAll(p);
+        return right && textOf(p, 0);
     }
 }

@@ -203,12 +203,8 @@ public final class WindowTest {
     }
 
     private static void longMills() {
-        RuleMill mill = Bench.withWidth(1);
-        Bench.rule(mill, "mul p q=>and p q;nop;nop");
-        Bench.rule(mill, "mul p q=>and p q;nop");
-        Bench.rule(mill, "mul p q=>and p q");
-        Bench.rule(mill, "nop=>");
         for (int n = 22; n <= 24; n++) {
+            RuleMill mill = BENCH.withRules(1, "mul p q=>and p q;nop;nop", "mul p q=>and p q;nop", "mul p q=>and p q", "nop=>");
             int perOrder = 25 - n;
             Bench.program(mill, Bench.times("mul a b", n));
             BENCH.due("mill of " + n, mill.mill(0), n * perOrder);
@@ -216,7 +212,6 @@ public final class WindowTest {
             BENCH.due("first rule of " + n, mill.step(0, 1), n - 22);
             BENCH.due("last price of " + n, mill.step(n * perOrder - 1, 2), n * 3);
             BENCH.due("changes of " + n, mill.told(n - 22, 8), n);
-            mill.drop();
         }
     }
 
