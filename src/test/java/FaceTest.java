@@ -26,6 +26,7 @@ public final class FaceTest {
         constants();
         methods();
         members();
+        sizes();
         words();
         BENCH.close();
     }
@@ -75,6 +76,29 @@ public final class FaceTest {
         BENCH.due("constructors", made.length, 1);
         BENCH.due("constructor's parameters", made[0].getParameterCount(), 0);
         BENCH.due("constructor is public", Modifier.isPublic(made[0].getModifiers()) ? 1 : 0, 1);
+    }
+
+    /** LANGUAGE.md, rules 5 and 11: classes, fields, parameters, and no static state that could change. */
+    private static void sizes() {
+        Class<?>[] inside = RuleMill.class.getDeclaredClasses();
+        BENCH.due("at most twelve classes", inside.length + 1 <= 12 ? 1 : 0, 1);
+        sizesOf(RuleMill.class);
+        for (Class<?> one : inside) {
+            sizesOf(one);
+        }
+    }
+
+    private static void sizesOf(Class<?> one) {
+        int fields = 0;
+        for (Field field : one.getDeclaredFields()) {
+            boolean isStatic = Modifier.isStatic(field.getModifiers());
+            fields += isStatic ? 0 : 1;
+            BENCH.due(one.getName() + "." + field.getName() + " is final if static", !isStatic || Modifier.isFinal(field.getModifiers()) ? 1 : 0, 1);
+        }
+        BENCH.due("at most twenty fields in " + one.getName(), fields <= 20 ? 1 : 0, 1);
+        for (Method method : one.getDeclaredMethods()) {
+            BENCH.due("at most seven parameters of " + method.getName(), method.getParameterCount() <= 7 ? 1 : 0, 1);
+        }
     }
 
     private static void words() throws IOException {
